@@ -221,10 +221,31 @@ public final class PromiseTests {
         x.grids(0);
         x.wants(0);
         x.ticks(5);
+        anewDue("stopping", x);
+        x = running(40);
+        x.blows(12, 5);
+        x.ticks(5);
+        due("ahead of it: TORQUE", x.now(3) > 0 ? 1 : 0, 1);
+        due("ahead of it: TWIST", x.now(7), 3);
+        anewDue("turned", x);
+        x = running(40);
+        x.blows(35, 0);
+        x.ticks(1);
+        due("ahead of it: STORM", x.now(12), 1);
+        anewDue("storm", x);
+        anewDue("tripped", tripped());
+        x = wound(1);
+        x.ticks(1);
+        due("ahead of it: UNWINDING", x.now(15), 1);
+        anewDue("unwinding", x);
+    }
+
+    private static void anewDue(String when, HeldBlades x) {
         x.keep(0);
         x.keep(1);
         x.sees(2, 3, 4);
-        due("tells() of nothing", x.tells(), 0);
+        due("tells() of nothing, " + when, x.tells(), 0);
+        settingsDue("told", x, 100, 130, 4, 30, 72, 3);
         nowDue("told", x, 0, 0, 90, 0, 0, 0, 0, 0, 0, 1, 1, 0, 0, 0, 0, 0, 0, 0);
         for (int what = 0; what < 6; what++) {
             due("told: count(" + what + ")", x.count(what), 0);
@@ -492,36 +513,64 @@ public final class PromiseTests {
         due("STOPPING: HEADING", y.now(6), 0);
     }
 
-    /** With no wind, and not wanted, it turns after FROM, which goes ahead of it, until the cable is WOUND. */
-    private static void unwinding() {
+    /** With no wind it turns after FROM, which goes ahead of it, up (1) or down (-1), until the cable is WOUND. */
+    private static HeldBlades wound(int way) {
         HeldBlades x = told("l36;");
         for (int i = 1; i <= 3; i++) {
-            x.blows(0, i * 12 % 36);
+            x.blows(0, Math.floorMod(way * i * 12, 36));
             x.ticks(i == 3 ? 11 : 12);
         }
         // it begins with the third tick, and goes on in each one then
-        due("TWIST on the way", x.now(7), 33);
-        x.blows(0, 8);
-        x.ticks(3);
-        due("TWIST at LIMIT", x.now(7), 36);
+        due("TWIST on the way", x.now(7), way * 33);
+        x.blows(0, Math.floorMod(way * 8, 36));
+        x.ticks(2);
+        due("TWIST next to LIMIT", x.now(7), way * 35);
+        x.ticks(1);
+        due("TWIST at LIMIT", x.now(7), way * 36);
+        due("HEADING at LIMIT", x.now(6), 0);
         due("UNWINDING", x.now(15), 0);
-        x.blows(10, 8);
-        x.ticks(1);
-        due("UNWINDING begins", x.now(15), 1);
-        due("TWIST nearer", x.now(7), 35);
-        due("HEADING follows", x.now(6), 35);
-        x.ticks(34);
-        due("TWIST 1", x.now(7), 1);
-        x.ticks(1);
-        due("TWIST 0", x.now(7), 0);
-        due("still UNWINDING", x.now(15), 1);
-        due("still STOPPED", x.now(0), 0);
-        x.ticks(1);
-        due("UNWINDING ends", x.now(15), 0);
-        due("STOPPED in this tick, too", x.now(0), 0);
-        due("it turns to the wind", x.now(7), 1);
-        x.ticks(1);
+        return x;
+    }
+
+    private static void unwinding() {
+        for (int way = -1; way <= 1; way += 2) {
+            HeldBlades x = wound(way);
+            x.blows(10, Math.floorMod(way * 8, 36));
+            x.ticks(1);
+            due("UNWINDING begins", x.now(15), 1);
+            due("TWIST nearer", x.now(7), way * 35);
+            due("HEADING follows", x.now(6), way == 1 ? 35 : 1);
+            x.ticks(34);
+            due("TWIST 1", x.now(7), way);
+            x.ticks(1);
+            due("TWIST 0", x.now(7), 0);
+            due("still UNWINDING", x.now(15), 1);
+            due("still STOPPED", x.now(0), 0);
+            x.ticks(1);
+            due("UNWINDING ends", x.now(15), 0);
+            due("STOPPED in this tick, too", x.now(0), 0);
+            due("it turns to the wind", x.now(7), way);
+            x.ticks(1);
+            due("STARTING", x.now(0), 1);
+        }
+        woundWhileRunning();
+    }
+
+    /** Next to LIMIT it starts; one step more makes it STOPPING, and it does not turn then. */
+    private static void woundWhileRunning() {
+        HeldBlades x = wound(-1);
+        x.undo();
+        due("TWIST next to LIMIT", x.now(7), -35);
+        x.blows(10, 1);
+        x.ticks(3);
         due("STARTING", x.now(0), 1);
+        x.blows(10, 30);
+        x.ticks(3);
+        due("TWIST at LIMIT", x.now(7), -36);
+        due("STARTING in this tick", x.now(0), 1);
+        x.ticks(1);
+        due("WOUND: STOPPING", x.now(0), 4);
+        due("TWIST stays", x.now(7), -36);
     }
 
     private static void undo() {
@@ -629,20 +678,38 @@ public final class PromiseTests {
         due("nothing is changed", z.now(1), before);
         due("nothing is changed: TICKS", z.count(0), 60);
         due("nothing is changed: UNDONE", z.count(5), 2);
+        // the 61st tick would trip these: it is not asked for
+        HeldBlades late = told("r108;t112;s7;o28;i3;l44;");
+        late.blows(15, 0);
+        late.ticks(1);
+        due("gust(16), 60 ticks in all", late.gust(16), 40);
+        gustIsGreatest(late, 16);
+        late = told("r95;t99;s2;o22;i5;l37;");
+        late.blows(20, 0);
+        late.ticks(7);
+        due("gust(17), 60 ticks in all", late.gust(17), 40);
+        gustIsGreatest(late, 17);
+        HeldBlades calm = told("r78;t79;s5;o29;i3;l43;");
+        calm.blows(16, 34);
+        calm.ticks(32);
+        due("gust(20), no wind alone", calm.gust(20), 0);
+        gustIsGreatest(calm, 20);
     }
 
     /** The gust that is answered does not trip it when it comes, and every greater one does. */
     private static void gustIsGreatest(HeldBlades x, int n) {
         int answer = x.gust(n);
         int nowWind = x.now(4);
+        int from = x.now(5);
+        int trips = x.count(2);
         x.keep(1);
         int greatest = -9;
         for (int wind = 0; wind <= 40; wind++) {
-            x.blows(wind, 0);
+            x.blows(wind, from);
             x.ticks(n);
-            x.blows(nowWind, 0);
+            x.blows(nowWind, from);
             x.ticks(60 - n);
-            if (x.count(2) == 0) {
+            if (x.count(2) == trips) {
                 greatest = wind;
             }
             x.back(1);
@@ -670,6 +737,32 @@ public final class PromiseTests {
         due("dip(), not wanted", z.dip(), -9);
         due("nothing is changed", z.now(0) == 4 ? 1 : 0, 0);
         due("nothing is changed: GRID", z.now(9), 1);
+        dipIsGreatest(running(60));
+        HeldBlades late = told("r100;t108;s1;o27;i9;l53;");
+        late.blows(19, 3);
+        late.ticks(43);
+        due("dip(), 60 ticks in all", late.dip(), 3);
+        dipIsGreatest(late);
+    }
+
+    /** By taking the grid away, for each number of ticks. */
+    private static void dipIsGreatest(HeldBlades x) {
+        int answer = x.dip();
+        int greatest = -9;
+        x.keep(1);
+        for (int n = 0; n <= 4; n++) {
+            boolean rides = true;
+            for (int tick = 0; tick < 60; tick++) {
+                x.grids(tick < n ? 0 : 1);
+                x.ticks(1);
+                rides &= x.now(0) != 4 && x.now(0) != 5;
+            }
+            if (rides) {
+                greatest = n;
+            }
+            x.back(1);
+        }
+        due("dip()", answer, greatest);
     }
 
     private static void rain() {
