@@ -1,4 +1,4 @@
-/** Each promise by itself: ordinary inputs, the edges that the document names, wrong inputs. Answers worked out by hand. */
+/** Each promise by itself: ordinary inputs, the edges that the document names, wrong inputs. Answers by hand, or by ticking it all out. */
 public final class PromiseTests {
     private static int wrong = 0;
 
