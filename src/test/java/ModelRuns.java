@@ -403,13 +403,19 @@ public final class ModelRuns {
         }
     }
 
+    /** So few that the last of them, and a look at the whole, still end ahead of 512. */
+    private static final int MIXED_CALLS = 480;
+
     private static int wrong = 0;
     private static int run;
+    /** How many calls the object of this run has had: what it answers behind the 512th is free. */
+    private static int calls;
     private static final int[] MET = new int[16];
     private static final String[] MET_NAMES = {"stopped", "starting", "slow", "fast", "stopping", "tripped", "wound",
         "unwinding", "a reset", "twisted down", "storm", "away", "fast again slow", "a cycle", "ice told", "two halves more"};
 
     private static void due(String call, int got, int want) {
+        calls++;
         if (got != want && wrong++ < 40) {
             System.out.println("run " + run + ": " + call + " answered " + got + ", due is " + want);
         }
@@ -450,24 +456,30 @@ public final class ModelRuns {
     private static void mixedRun(Random random) {
         HeldBlades x = new HeldBlades();
         Model m = new Model();
-        int calls = 0;
+        calls = 0;
         if (random.nextInt(4) > 0) {
-            calls += tellGood(random, x, m);
+            tellGood(random, x, m);
         }
         boolean chased = random.nextInt(3) == 0;
-        while (calls < 512) {
-            calls++;
+        while (calls < MIXED_CALLS) {
             int before = m.all.v[MODE];
             oneCall(random, x, m, chased);
             met(m, before);
-            if (random.nextInt(3) == 0 && calls < 512) {
-                calls++;
+            if (random.nextInt(3) == 0) {
                 int what = random.nextInt(18);
                 due("now(" + what + ")", x.now(what), m.now(what));
             }
         }
         for (int what = 0; what < 18; what++) {
             due("now(" + what + ") at the end", x.now(what), m.now(what));
+        }
+        fewCalls();
+    }
+
+    private static void fewCalls() {
+        if (calls > 512) {
+            wrong++;
+            System.out.println("run " + run + " has " + calls + " calls");
         }
     }
 
@@ -483,7 +495,7 @@ public final class ModelRuns {
         if (before == 3 && v[MODE] == 2) MET[12]++;
     }
 
-    private static int tellGood(Random random, HeldBlades x, Model m) {
+    private static void tellGood(Random random, HeldBlades x, Model m) {
         String[] some = {"r" + (40 + random.nextInt(81)) + ";", "i" + (1 + random.nextInt(10)) + " ; ",
             "o " + (11 + random.nextInt(30)) + ";", " l" + (random.nextInt(2) == 0 ? 36 : 36 + random.nextInt(73)) + ";",
             "s" + (1 + random.nextInt(9)) + ";", "t" + (101 + random.nextInt(100)) + ";"};
@@ -493,18 +505,14 @@ public final class ModelRuns {
                 letters.append(one);
             }
         }
-        int calls = 0;
         for (char letter : letters.toString().toCharArray()) {
             due("type", x.type(letter), m.type(letter));
-            calls++;
         }
         due("tells() of '" + letters + "'", x.tells(), m.tells());
-        x.clear();
-        m.clear();
+        due("clear()", x.clear(), m.clear());
         for (int what = 0; what < 6; what++) {
             due("setting(" + what + ")", x.setting(what), m.setting(what));
         }
-        return calls + 8;
     }
 
     private static void oneCall(Random random, HeldBlades x, Model m, boolean chased) {
@@ -598,7 +606,8 @@ public final class ModelRuns {
         String[] parts = {"r", "t", "i", "o", "l", "s", ";", ";", " ", "  ", "1", "9", "36", "40", "100", "101", "120", "200",
             "201", "255", "256", "0", "03", "7", "12", "x", "\t", "R", "99999999999", "-", (char) 0 + "", (char) 255 + ""};
         String[] wholes = {"r40;", "t101;", "t150 ;", "i 3;", "o40;", "l108;", " s9;", "r 120 ;", "i1;", "t200;"};
-        for (int text = 0; text < 12; text++) {
+        calls = 0;
+        for (int text = 0; text < 12 && calls < MIXED_CALLS - 80; text++) {
             StringBuilder letters = new StringBuilder();
             int length = random.nextInt(6);
             for (int i = 0; i < length; i++) {
@@ -617,5 +626,6 @@ public final class ModelRuns {
                 due("clear()", x.clear(), m.clear());
             }
         }
+        fewCalls();
     }
 }

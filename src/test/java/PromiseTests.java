@@ -1,4 +1,7 @@
-/** Each promise by itself: ordinary inputs, the edges that the document names, wrong inputs. Answers by hand, or by ticking it all out. */
+/**
+ * Each promise by itself: ordinary inputs, wrong inputs. Answers by hand; those of gust, dip and ask are worked out in
+ * EdgesOfAnswers.
+ */
 public final class PromiseTests {
     private static int wrong = 0;
 
@@ -672,52 +675,11 @@ public final class PromiseTests {
         due("it will trip with any wind", y.gust(1), -9);
         HeldBlades z = running(60);
         int before = z.now(1);
-        gustIsGreatest(z, 5);
-        gustIsGreatest(z, 12);
-        gustIsGreatest(z, 20);
+        due("gust(5)", z.gust(5), 26);
+        due("gust(20)", z.gust(20), 20);
         due("nothing is changed", z.now(1), before);
         due("nothing is changed: TICKS", z.count(0), 60);
         due("nothing is changed: UNDONE", z.count(5), 2);
-        // the 61st tick would trip these: it is not asked for
-        HeldBlades late = told("r108;t112;s7;o28;i3;l44;");
-        late.blows(15, 0);
-        late.ticks(1);
-        due("gust(16), 60 ticks in all", late.gust(16), 40);
-        gustIsGreatest(late, 16);
-        late = told("r95;t99;s2;o22;i5;l37;");
-        late.blows(20, 0);
-        late.ticks(7);
-        due("gust(17), 60 ticks in all", late.gust(17), 40);
-        gustIsGreatest(late, 17);
-        HeldBlades calm = told("r78;t79;s5;o29;i3;l43;");
-        calm.blows(16, 34);
-        calm.ticks(32);
-        due("gust(20), no wind alone", calm.gust(20), 0);
-        gustIsGreatest(calm, 20);
-    }
-
-    /** The gust that is answered does not trip it when it comes, and every greater one does. */
-    private static void gustIsGreatest(HeldBlades x, int n) {
-        int answer = x.gust(n);
-        int nowWind = x.now(4);
-        int from = x.now(5);
-        int trips = x.count(2);
-        x.keep(1);
-        int greatest = -9;
-        for (int wind = 0; wind <= 40; wind++) {
-            x.blows(wind, from);
-            x.ticks(n);
-            x.blows(nowWind, from);
-            x.ticks(60 - n);
-            if (x.count(2) == trips) {
-                greatest = wind;
-            }
-            x.back(1);
-        }
-        due("gust(" + n + ")", answer, greatest);
-        // what was UNDONE is lost by back(): two are put there again
-        x.ices(1);
-        x.ices(0);
     }
 
     private static void dip() {
@@ -737,32 +699,6 @@ public final class PromiseTests {
         due("dip(), not wanted", z.dip(), -9);
         due("nothing is changed", z.now(0) == 4 ? 1 : 0, 0);
         due("nothing is changed: GRID", z.now(9), 1);
-        dipIsGreatest(running(60));
-        HeldBlades late = told("r100;t108;s1;o27;i9;l53;");
-        late.blows(19, 3);
-        late.ticks(43);
-        due("dip(), 60 ticks in all", late.dip(), 3);
-        dipIsGreatest(late);
-    }
-
-    /** By taking the grid away, for each number of ticks. */
-    private static void dipIsGreatest(HeldBlades x) {
-        int answer = x.dip();
-        int greatest = -9;
-        x.keep(1);
-        for (int n = 0; n <= 4; n++) {
-            boolean rides = true;
-            for (int tick = 0; tick < 60; tick++) {
-                x.grids(tick < n ? 0 : 1);
-                x.ticks(1);
-                rides &= x.now(0) != 4 && x.now(0) != 5;
-            }
-            if (rides) {
-                greatest = n;
-            }
-            x.back(1);
-        }
-        due("dip()", answer, greatest);
     }
 
     private static void rain() {
@@ -845,11 +781,10 @@ public final class PromiseTests {
         due("ask(), none", x.ask(), -9);
         x.forget();
         due("nothing is changed", x.now(8), 3);
-        askIsLeast(x);
+        due("ask(), all can be", x.ask(), 5);
         x.sees(1, 12, 8);
-        askIsLeast(x);
         x.sees(1, 24, 10);
-        askIsLeast(x);
+        due("ask(), two can be", x.ask(), 4);
         HeldBlades still = new HeldBlades();
         still.wants(0);
         due("ask(), no wind tells", still.ask(), 0);
@@ -864,33 +799,6 @@ public final class PromiseTests {
             one.sees(1, 40, speed);
             due("which() has ICE " + ice, one.which() >> ice & 1, 1);
         }
-    }
-
-    /** By telling each wind, with each ice, for 10 ticks. */
-    private static void askIsLeast(HeldBlades x) {
-        int possible = x.which();
-        int answer = x.ask();
-        int from = x.now(5);
-        int best = -9;
-        int least = 7;
-        x.keep(0);
-        for (int wind = 0; wind <= 40; wind++) {
-            int[] byWind = new int[1000];
-            int most = 0;
-            for (int ice = 0; ice < 6; ice++) {
-                if ((possible >> ice & 1) == 1) {
-                    x.ices(ice);
-                    x.blows(wind, from);
-                    most = Math.max(most, ++byWind[x.ticks(10)]);
-                    x.back(0);
-                }
-            }
-            if (most < least) {
-                least = most;
-                best = wind;
-            }
-        }
-        due("ask() of " + possible, answer, best);
     }
 
     private static void images() {

@@ -69,6 +69,10 @@ final class EdgesOfAnswers {
         gustIs(e, "blows 4 0, ticks 34", 19, 21);
         gustIs(e, "blows 4 0, ticks 34", 20, 20);
         gustIs(e, "blows 13 0, ticks 44, grids 0", 6, 0);
+        gustIs(e, "types 'r78;t79;s5;o29;i3;l43;', tells = 6, blows 16 34, ticks 32", 20, 0);
+        gustIs(e, "blows 12 0, ticks 60", 5, 26);
+        gustIs(e, "blows 12 0, ticks 60", 12, 20);
+        gustIs(e, "blows 12 0, ticks 60", 20, 20);
         // a lesser one may trip it, too
         gustIs(e, "blows 36 0, ticks 22", 20, 40);
         e.run("blows 36 0, ticks 22, gust 20 = 40, blows 8 0, ticks 20, blows 36 0, ticks 40, TRIPS = 1");
@@ -83,6 +87,8 @@ final class EdgesOfAnswers {
         // the 61st does not
         gustIs(e, "blows 24 0, ticks 7", 14, 40);
         e.run("blows 24 0, ticks 7, gust 14 = 40, blows 40 0, ticks 14, blows 24 0, ticks 46, TRIPS = 0, ticks 1, TRIPS = 1");
+        gustIs(e, "types 'r108;t112;s7;o28;i3;l44;', tells = 6, blows 15 0, ticks 1", 16, 40);
+        gustIs(e, "types 'r95;t99;s2;o22;i5;l37;', tells = 6, blows 20 0, ticks 7", 17, 40);
         // the n-th counts, the next has the wind of now
         gustIs(e, "blows 16 0, ticks 58", 12, 29);
         gustIs(e, "blows 16 0, ticks 58", 20, 29);
@@ -153,6 +159,7 @@ final class EdgesOfAnswers {
         String sixtieth = "types 'r93;s2;', tells = 2, blows 21 0, ticks 57, MODE = FAST";
         dipIs(e, sixtieth, 2);
         e.due("59 TICKS of a dip of 3", rides(e, sixtieth, 3, 59) ? 1 : 0, 1);
+        dipIs(e, "types 'r100;t108;s1;o27;i9;l53;', tells = 6, blows 19 3, ticks 43", 3);
         String later = "types 't124;i1;s1;', tells = 3, blows 29 0, ticks 51, blows 28 0, ticks 31, MODE = FAST";
         dipIs(e, later, 3);
         e.due("61 TICKS of a dip of 3", rides(e, later, 3, 61) ? 1 : 0, 0);
@@ -219,7 +226,9 @@ final class EdgesOfAnswers {
     private static void halvesOfDifferences(Edges e) {
         e.of(T, "HALVES of a difference: twice its CYCLES, and 1 for each two neighbours that are left in the row and differ so.")
             // 0 7 0: neighbours alone
-            .run(STARTED + ", blows 0 0, ticks 7, SPEED = 0, rain 3 = 0, halves 7 = 2, rain 0 = 1, rain 2 = 2, halves 6 = 0, halves 8 = 0");
+            .run(STARTED + ", blows 0 0, ticks 7, SPEED = 0, rain 3 = 0, halves 7 = 2, rain 0 = 1, rain 2 = 2, halves 6 = 0, halves 8 = 0")
+            // of THE RECORD as it is: what was counted of a longer one is gone
+            .run("blows 28 0, ticks 18, blows 12 0, ticks 6, rain 0 = 3, undo, rain 0 = 1, halves 61 = 1, halves 2 = 0, halves 5 = 0, rain 2 = 1");
     }
 
     private static void halves(Edges e) {
@@ -344,6 +353,9 @@ final class EdgesOfAnswers {
         askIs(e, "blows 26 0, ticks 41", 40);
         askIs(e, "blows 24 0, ticks 42", 39);
         askIs(e, "blows 21 4, ticks 9", 1);
+        askIs(e, STARTED + ", ices 3", 5);
+        askIs(e, STARTED + ", ices 3, sees 1 12 8", 5);
+        askIs(e, STARTED + ", ices 3, sees 1 12 8, sees 1 24 10, which = 12", 4);
         // no WIND tells: the least of all
         askIs(e, "wants 0", 0);
         askIs(e, "blows 25 0, ticks 46", 0);

@@ -197,6 +197,9 @@ final class EdgesOfCalls {
             // refused calls, and those that are not named, are none of the 6
             .run("ices 1, ices 1 = STATE, ices 6 = BAD, blows 0 0 = STATE, grids 1 = STATE, wants 1 = STATE, resets = STATE,"
                 + " ticks 61 = BAD, UNDOABLE = 1, keep 0, type 32, sees 1 1 1, forget, clear, UNDOABLE = 1, undo = 0, ICE = 0")
+            // what 2 does not tell is not UNDONE
+            .run("types 's5;', tells = 1, ices 1, keep 0, ices 2, sees 1 2 3, types 'x', undo, ICE = 1, undo, ICE = 0, RATE = 5,"
+                + " SEEN = 1, LETTERS = 1, back 0, ICE = 1")
             // undo itself is not UNDONE
             .run("ices 1, ices 2, undo = 1, undo = 0, ICE = 0, undo = STATE");
     }

@@ -279,6 +279,8 @@ final class EdgesOfText {
             .wholeAlike(EdgesOfCalls.FULL_OF_ALL + ", clear, tells = 0", "")
             .wholeAlike(EdgesOfCalls.TRIPPED_AT_REST + ", tells = 0", "")
             .wholeAlike(EdgesOfCalls.UNWINDING + ", tells = 0", "")
+            .wholeAlike("blows 14 0, ticks 60, MODE = FAST, TORQUE = 50, tells = 0", "")
+            .wholeAlike("blows 12 5, ticks 40, MODE = SLOW, TWIST = 3, blows 35 8, ticks 1, STORM = 1, OFF = 1, tells = 0", "")
             .wholeAlike(EdgesOfCalls.FURNISHED + ", clear, types 'r60;l40;', tells = 2", "types 'r60;l40;', tells = 2")
             .run("ices 1, ices 2, tells = 0, UNDOABLE = 0, undo = STATE, ICE = 0, ices 3, UNDOABLE = 1, undo = 0, ICE = 0")
             .run("ices 1, keep 0, keep 1, tells = 0, back 0 = STATE, back 1 = STATE, ICE = 0, keep 1, back 1 = 0, back 0 = STATE")

@@ -334,6 +334,8 @@ final class EdgesOfTicks {
             .run("types 't101;', tells = 1, blows 17 0, ticks 36, PITCH = 0, DRIVE = 85, blows 40 0, DRIVE = 200, ices 5, DRIVE = 100")
             // 5 times 9 times 10 times 3 is less than 1620, 6 times that much is as much
             .run("blows 12 0, ticks 3, PITCH = 87, DRIVE = 2, blows 5 0, DRIVE = 0, blows 6 0, DRIVE = 1, blows 11 0, DRIVE = 1")
+            // 25 times 8 times 10 times 17 is 34000: 20 less than 21 times 1620
+            .run("types 's1;', tells = 1, blows 12 0, ticks 19, PITCH = 73, blows 25 1, DRIVE = 20")
             // SPEED is driven by DRIVE as it is with the PITCH of this TICK: wind from behind drives nothing
             .run(at + "blows 29 9, ticks 1, SPEED = 6, ticks 1, SPEED = 5, HEADING = 0, ticks 1, SPEED = 4, HEADING = 1");
     }
