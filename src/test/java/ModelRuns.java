@@ -410,9 +410,9 @@ public final class ModelRuns {
     private static int run;
     /** How many calls the object of this run has had: what it answers behind the 512th is free. */
     private static int calls;
-    private static final int[] MET = new int[16];
+    private static final int[] MET = new int[17];
     private static final String[] MET_NAMES = {"stopped", "starting", "slow", "fast", "stopping", "tripped", "wound",
-        "unwinding", "a reset", "twisted down", "storm", "away", "fast again slow", "a cycle", "ice told", "two halves more"};
+        "unwinding", "a reset", "twisted down", "storm", "away", "fast again slow", "a cycle", "ice told", "two halves more", "many turns"};
 
     private static void due(String call, int got, int want) {
         calls++;
@@ -427,6 +427,9 @@ public final class ModelRuns {
         }
         for (run = 1001; run <= 1400; run++) {
             textRun(new Random(run));
+        }
+        for (run = 2001; run <= 2060; run++) {
+            zigzagRun(new Random(run));
         }
         for (int i = 0; i < MET.length; i++) {
             if (MET[i] == 0) {
@@ -598,6 +601,29 @@ public final class ModelRuns {
         if (bits != 0 && bits != 63) MET[14]++;
         due("which()", x.which(), bits);
         due("ask()", x.ask(), m.ask());
+    }
+
+    /** Wind and calm by turns, so that most of THE RECORD are TURNS. */
+    private static void zigzagRun(Random random) {
+        HeldBlades x = new HeldBlades();
+        Model m = new Model();
+        calls = 0;
+        tellGood(random, x, m);
+        int wind = 5 + random.nextInt(20);
+        due("blows(" + wind + ", 0)", x.blows(wind, 0), m.blows(wind, 0));
+        int n = 10 + random.nextInt(40);
+        due("ticks(" + n + ")", x.ticks(n), m.ticks(n));
+        while (calls < MIXED_CALLS) {
+            wind = m.all.v[WIND] > 4 ? random.nextInt(5) : 10 + random.nextInt(20);
+            due("blows(" + wind + ", 0)", x.blows(wind, 0), m.blows(wind, 0));
+            n = random.nextInt(8) == 0 ? 2 : 1;
+            due("ticks(" + n + ")", x.ticks(n), m.ticks(n));
+            if (random.nextInt(3) == 0) {
+                rainCall(random, x, m);
+            }
+            if (m.rain(4) > 35) MET[16]++;
+        }
+        fewCalls();
     }
 
     private static void textRun(Random random) {

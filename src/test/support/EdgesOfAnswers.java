@@ -202,8 +202,8 @@ final class EdgesOfAnswers {
     }
 
     private static void row(Edges e) {
-        e.of(T, "as long as the last four a, b, c, d in it are so that b and c differ by no more than a and b, and no more than c and d: b and"
-            + " c leave the row, and are a CYCLE of as much as they differ.")
+        e.of(T, "They come to a row, one by one; as long as the last four a, b, c, d in it are so that b and c differ by no more than"
+            + " a and b, and no more than c and d: b and c leave the row, and are a CYCLE of as much as they differ.")
             // 0 2 0 4: as much as a and b
             .run("blows 18 0, ticks 6, SPEED = 2, blows 0 0, ticks 2, SPEED = 0, rain 4 = 3, rain 3 = 0, halves 2 = 2, ticks 1, blows 13 0,"
                 + " ticks 2, SPEED = 4, rain 4 = 4, rain 3 = 1, halves 2 = 2, halves 4 = 1, rain 2 = 3, rain 0 = 2")
@@ -226,9 +226,18 @@ final class EdgesOfAnswers {
     private static void halvesOfDifferences(Edges e) {
         e.of(T, "HALVES of a difference: twice its CYCLES, and 1 for each two neighbours that are left in the row and differ so.")
             // 0 7 0: neighbours alone
-            .run(STARTED + ", blows 0 0, ticks 7, SPEED = 0, rain 3 = 0, halves 7 = 2, rain 0 = 1, rain 2 = 2, halves 6 = 0, halves 8 = 0")
+            .run(STARTED + ", blows 0 0, ticks 7, SPEED = 0, rain 3 = 0, halves 7 = 2, rain 0 = 1, rain 2 = 2, halves 6 = 0,"
+                + " halves 8 = 0")
             // of THE RECORD as it is: what was counted of a longer one is gone
-            .run("blows 28 0, ticks 18, blows 12 0, ticks 6, rain 0 = 3, undo, rain 0 = 1, halves 61 = 1, halves 2 = 0, halves 5 = 0, rain 2 = 1");
+            .run("blows 28 0, ticks 18, blows 12 0, ticks 6, rain 0 = 3, undo, rain 0 = 1, halves 61 = 1, halves 2 = 0, halves 5 = 0,"
+                + " rain 2 = 1")
+            // all 40 are TURNS, 74 80 73 80 73 .. 80: each 73 behind the first makes a CYCLE, and 74 80 73 80 are left
+            .run("blows 12 0, ticks 45" + ", blows 0 0, ticks 1, blows 20 0, ticks 1".repeat(20) + ", record 39 = 74, record 38 = 80,"
+                + " record 37 = 73, record 1 = 73, record 0 = 80, rain 4 = 40, rain 3 = 18, halves 7 = 38, halves 6 = 1, rain 0 = 2,"
+                + " rain 1 = 7, rain 2 = 39")
+            // one TICK more, and the 74 is lost: 80 73 80 73 .. 73, of which 80 73 are left at last
+            .run("blows 12 0, ticks 45" + ", blows 0 0, ticks 1, blows 20 0, ticks 1".repeat(20) + ", blows 0 0, ticks 1, record 39 = 80,"
+                + " record 0 = 73, rain 4 = 40, rain 3 = 19, halves 7 = 39, halves 6 = 0, rain 0 = 1, rain 1 = 7, rain 2 = 39");
     }
 
     private static void halves(Edges e) {
@@ -240,8 +249,8 @@ final class EdgesOfAnswers {
     }
 
     private static void rain(Edges e) {
-        e.of("Promise 18", "RAIN: how many unlike differences have HALVES (what = 0), the greatest of them (1; NONE), all HALVES together (2),"
-            + " CYCLES (3), TURNS (4). BAD.")
+        e.of("Promise 18", "RAIN: how many unlike differences have HALVES (what = 0), the greatest of them (1; NONE), all HALVES"
+            + " together (2), CYCLES (3), TURNS (4). BAD.")
             .run("rain -1 = BAD, rain 5 = BAD, rain " + LEAST + " = BAD, rain " + GREATEST + " = BAD")
             .run("rain 0 = 0, rain 1 = NONE, rain 2 = 0, rain 3 = 0, rain 4 = 0")
             .run("ticks 1, rain 0 = 0, rain 1 = NONE, rain 2 = 0, rain 3 = 0, rain 4 = 1")
@@ -273,8 +282,8 @@ final class EdgesOfAnswers {
     }
 
     private static void seen(Edges e) {
-        e.of(T, "SEEN (6 at most): ICE being unknown, after n TICKS (1 to 20) with a WIND (else all as it is when it is asked) SPEED would be"
-            + " x.");
+        e.of(T, "SEEN (6 at most): ICE being unknown, after n TICKS (1 to 20) with a WIND (else all as it is when it is asked) SPEED"
+            + " would be x.");
         for (String made : new String[] {STARTED, SLOW, ICED, EdgesOfCalls.TRIPPED_AT_REST}) {
             for (int n : new int[] {1, 2, 19, 20}) {
                 for (int wind : new int[] {0, 12, 39, 40}) {
@@ -285,8 +294,8 @@ final class EdgesOfAnswers {
         // 1 tick of WIND 12: DRIVE 20 18 16 14 12 10, less 1, by 8: 2 2 1 1 1 1 more; what ICE it has is unknown
         e.run(STARTED + ", sees 1 12 9, which = 3, ices 5, which = 3, ices 2, which = 3")
             // as it is when it is asked: one TICK later 9 is what no ICE would keep it at
-            .run(STARTED + ", sees 1 12 9, which = 3, ticks 1, SPEED = 9, which = 0, undo, which = 3, keep 0, blows 0 18, which = 0, back 0,"
-                + " which = 3")
+            .run(STARTED + ", sees 1 12 9, which = 3, ticks 1, SPEED = 9, which = 0, undo, which = 3, keep 0, blows 0 18, which = 0,"
+                + " back 0, which = 3")
             .run("sees 1 0 0 = 1, sees 20 40 999 = 2, sees 1 0 0 = 3, sees 1 0 0 = 4, sees 1 0 0 = 5, sees 1 0 0 = 6, sees 1 0 0 = FULL,"
                 + " SEEN = 6, forget = 6, sees 1 0 0 = 1")
             // the sixth is looked at, too
@@ -347,8 +356,8 @@ final class EdgesOfAnswers {
     }
 
     private static void ask(Edges e) {
-        e.of(T, "ASK: the WIND (0 to 40) by which the greatest number of these by which SPEED behind 10 TICKS is alike is least, of several the"
-            + " least WIND; NONE (one can be at most).");
+        e.of(T, "ASK: the WIND (0 to 40) by which the greatest number of these by which SPEED behind 10 TICKS is alike is least, of"
+            + " several the least WIND; NONE (one can be at most).");
         askIs(e, "", 15);
         askIs(e, "blows 26 0, ticks 41", 40);
         askIs(e, "blows 24 0, ticks 42", 39);
@@ -361,8 +370,8 @@ final class EdgesOfAnswers {
         askIs(e, "blows 25 0, ticks 46", 0);
         askIs(e, EdgesOfCalls.TRIPPED_AT_REST, 0);
         // two TICKS of WIND 24: 14 with ICE 2, 13 with ICE 3
-        e.run(STARTED + ", sees 1 12 8, sees 1 24 10, which = 12, ask != NONE, sees 2 24 13, which = 8, ask = NONE, sees 1 0 999, which = 0,"
-            + " ask = NONE, forget, ask != NONE");
+        e.run(STARTED + ", sees 1 12 8, sees 1 24 10, which = 12, ask != NONE, sees 2 24 13, which = 8, ask = NONE, sees 1 0 999,"
+            + " which = 0, ask = NONE, forget, ask != NONE");
         e.of("Promise 22", "ASK; NONE.")
             .run("ask = 15, sees 1 0 1, which = 0, ask = NONE, forget, ask = 15")
             .leavesAll(EdgesOfCalls.FURNISHED, "ask != BAD");
