@@ -11,6 +11,7 @@ public final class EdgeTests {
         EdgesOfCalls.test(edges);
         EdgesOfTicks.test(edges);
         EdgesOfAnswers.test(edges);
+        EdgesOfLeaving.test(edges);
         if (edges.end() != 0) {
             System.exit(1);
         }

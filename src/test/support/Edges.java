@@ -2,9 +2,11 @@ import java.io.IOException;
 import java.nio.file.Files;
 import java.nio.file.Path;
 import java.util.ArrayList;
+import java.util.HashSet;
 import java.util.LinkedHashMap;
 import java.util.List;
 import java.util.Map;
+import java.util.Set;
 import java.util.regex.Matcher;
 import java.util.regex.Pattern;
 
@@ -21,7 +23,7 @@ final class Edges {
     private final Map<String, boolean[]> quoted = new LinkedHashMap<>();
     private String place = "";
     private String words = "";
-    private int sentences;
+    private final Set<String> sentences = new HashSet<>();
     private int runs;
     private int wrong;
 
@@ -54,7 +56,7 @@ final class Edges {
     Edges of(String section, String sentence) {
         place = section;
         words = sentence;
-        sentences++;
+        sentences.add(section + sentence);
         if (sections.isEmpty()) {
             return this;
         }
@@ -87,21 +89,36 @@ final class Edges {
 
     /** A call that is refused, or asks for something alone, leaves everything as it was. */
     Edges leavesAll(String made, String call) {
-        return wholeAlike(made + ", " + call, made);
+        String steps = made + ", " + call;
+        Set<String> asked = Run.questions(call);
+        if (!asked.isEmpty()) {
+            alike(ran(steps).wholePicture(asked), ran(made).wholePicture(asked), steps, made);
+        }
+        return wholeAlike(steps, made);
+    }
+
+    /** A call leaves everything as it was, but for the lines of the picture that begin like one of these. */
+    Edges leavesAllBut(String made, String call, String... changed) {
+        String steps = made + ", " + call;
+        return alike(without(changed, ran(steps)), without(changed, ran(made)), steps, made);
+    }
+
+    private static List<String> without(String[] changed, Run run) {
+        List<String> picture = run.wholePicture(Set.of());
+        for (String beginning : changed) {
+            picture.removeIf(line -> line.startsWith(beginning));
+        }
+        return picture;
     }
 
     /** Behind both runs everything that an object can be seen by is alike. */
     Edges wholeAlike(String steps, String others) {
-        Run one = ran(steps);
-        Run other = ran(others);
-        return alike(one.wholePicture(), other.wholePicture(), steps, others);
+        return alike(ran(steps).wholePicture(Set.of()), ran(others).wholePicture(Set.of()), steps, others);
     }
 
     /** Behind both runs all that the document's part 2 tells is alike. */
     Edges presentAlike(String steps, String others) {
-        Run one = ran(steps);
-        Run other = ran(others);
-        return alike(one.presentPicture(), other.presentPicture(), steps, others);
+        return alike(ran(steps).presentPicture(Set.of()), ran(others).presentPicture(Set.of()), steps, others);
     }
 
     /** A run, for what is asked of it then. */
@@ -115,9 +132,11 @@ final class Edges {
     }
 
     private Edges alike(List<String> got, List<String> due, String steps, String others) {
-        for (int i = 0; i < due.size(); i++) {
-            if (!got.get(i).equals(due.get(i))) {
-                fault("seen is " + got.get(i) + ", due is " + due.get(i) + ", behind: " + steps + " / " + others);
+        for (int i = 0; i < Math.max(got.size(), due.size()); i++) {
+            String seen = i < got.size() ? got.get(i) : "nothing";
+            String line = i < due.size() ? due.get(i) : "nothing";
+            if (!seen.equals(line)) {
+                fault("seen is " + seen + ", due is " + line + ", behind: " + steps + " / " + others);
                 return this;
             }
         }
@@ -138,7 +157,7 @@ final class Edges {
                 untested(section);
             }
         }
-        System.out.println(sentences + " sentences, " + runs + " runs: "
+        System.out.println(sentences.size() + " sentences, " + runs + " runs: "
             + (wrong == 0 ? "all answers are as due" : wrong + " faults"));
         return wrong;
     }

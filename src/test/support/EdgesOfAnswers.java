@@ -9,6 +9,9 @@ final class EdgesOfAnswers {
     private static final String STARTED = "blows 12 0, ticks 11, SPEED = 7, PITCH = 63";
     private static final String SLOW = "blows 11 0, ticks 45, MODE = SLOW";
     private static final String ICED = "types 'r60;s4;', tells = 2, blows 9 2, ticks 25, ices 3";
+    /** TWIST 34, LIMIT 36: a FROM 4 ahead makes it WOUND. */
+    private static final String TWISTED = "types 'l36;', tells = 1, blows 0 12, ticks 12, blows 0 24, ticks 12, blows 0 0, ticks 12,"
+        + " TWIST = 34, HEADING = 34";
 
     private EdgesOfAnswers() {
     }
@@ -17,9 +20,11 @@ final class EdgesOfAnswers {
         nothingIsChanged(e);
         gustWinds(e);
         gustTicks(e);
+        gustFromNow(e);
         gustNone(e);
         gust(e);
         dipTicks(e);
+        dipFromNow(e);
         dipNone(e);
         dip(e);
         turns(e);
@@ -28,6 +33,7 @@ final class EdgesOfAnswers {
         halves(e);
         rain(e);
         seen(e);
+        seenAsItIs(e);
         sees(e);
         forget(e);
         which(e);
@@ -96,9 +102,29 @@ final class EdgesOfAnswers {
         gustIs(e, EdgesOfCalls.FURNISHED, 3, 40);
     }
 
+    /** All that it has come to by now is looked at: each run has something that would make another answer if it were 0. */
+    private static void gustFromNow(Edges e) {
+        e.of(T, "being that for n TICKS from now on");
+        gustIs(e, "blows 13 3, ticks 31, HEADING = 1", 4, 32);
+        gustIs(e, "blows 21 32, ticks 52, HEADING = 34", 2, 30);
+        gustIs(e, "blows 28 0, ticks 21, wants 0", 1, 8);
+        gustIs(e, "blows 13 0, ticks 30, wants 0", 6, 18);
+        gustIs(e, "blows 24 0, ticks 1, GOOD = 1", 7, 25);
+        gustIs(e, "blows 24 0, ticks 2, GOOD = 2", 8, 28);
+        gustIs(e, "blows 8 0, ticks 26, blows 35 3, ticks 1, STORM = 1", 3, 31);
+        gustIs(e, "blows 12 0, ticks 31, grids 0, ticks 3, AWAY = 3", 5, 9);
+        gustIs(e, "blows 28 32, ticks 2, OFF = 2", 1, -9);
+        gustIs(e, "blows 8 0, ticks 31, blows 4 4, ticks 2, OFF = 2", 9, 35);
+        gustIs(e, TWISTED + ", blows 12 34, ticks 15, MODE = STARTING, blows 25 2", 1, 40);
+        gustIs(e, TWISTED + ", blows 0 12, ticks 2, TWIST = 36, blows 27 0, ticks 1, UNWINDING = 1", 1, 40);
+    }
+
     private static void gustNone(Edges e) {
         e.of(T, "NONE, if none (or it is TRIPPED).");
         gustIs(e, "blows 28 0, ticks 1", 5, -9);
+        // not even 0 is borne, though a little less than none would be
+        gustIs(e, "blows 14 0, ticks 32, grids 0", 5, -9);
+        gustIs(e, "types 'r84;t96;s3;o31;', tells = 4, blows 13 0, ticks 2, blows 21 0, ticks 19", 18, -9);
         gustIs(e, "blows 27 0, ticks 35, MODE = FAST, SPEED = 131", 17, -9);
         e.run(EdgesOfCalls.TRIPPED_AT_REST + ", gust 1 = NONE, gust 20 = NONE, resets, gust 1 = 40")
             .run("types 'r40;t41;', tells = 2, blows 20 0, ticks 40, MODE = TRIPPED, SPEED != 0, gust 1 = NONE, gust 20 = NONE");
@@ -163,6 +189,18 @@ final class EdgesOfAnswers {
         String later = "types 't124;i1;s1;', tells = 3, blows 29 0, ticks 51, blows 28 0, ticks 31, MODE = FAST";
         dipIs(e, later, 3);
         e.due("61 TICKS of a dip of 3", rides(e, later, 3, 61) ? 1 : 0, 0);
+    }
+
+    /** All that it has come to by now is looked at: each run has something that would make another answer if it were 0. */
+    private static void dipFromNow(Edges e) {
+        e.of(T, "the GRID being away for n TICKS from now on");
+        dipIs(e, "blows 23 0, ticks 28, ices 4", 3);
+        dipIs(e, "blows 22 0, ticks 32, ices 4", 2);
+        dipIs(e, "blows 26 4, ticks 48, HEADING = 2", 1);
+        dipIs(e, "blows 22 33, ticks 48, HEADING = 35", 2);
+        dipIs(e, "blows 12 0, ticks 45, blows 26 4, ticks 2, OFF = 2", 0);
+        dipIs(e, "blows 22 0, ticks 27, blows 25 4, ticks 1, OFF = 1", 2);
+        dipIs(e, TWISTED + ", blows 10 34, ticks 49, blows 18 2", -9);
     }
 
     private static void dipNone(Edges e) {
@@ -300,6 +338,21 @@ final class EdgesOfAnswers {
                 + " SEEN = 6, forget = 6, sees 1 0 0 = 1")
             // the sixth is looked at, too
             .run(STARTED + ", sees 1 12 8 x5, which = 60, sees 1 24 10 = 6, which = 12, sees 1 0 999 = FULL, which = 12");
+    }
+
+    /** Each run has something that would make SPEED another if it were 0. */
+    private static void seenAsItIs(Edges e) {
+        e.of(T, "(else all as it is when it is asked)");
+        whichIs(e, "blows 11 0, ticks 2, GOOD = 2", 5, 12);
+        whichIs(e, "blows 13 0, ticks 1, GOOD = 1", 10, 8);
+        whichIs(e, "blows 6 0, ticks 7, blows 37 0, ticks 1, STORM = 1", 13, 33);
+        whichIs(e, "blows 9 0, ticks 46, grids 0, AWAY = 0", 2, 4);
+        whichIs(e, "blows 22 0, ticks 3, grids 0, ticks 3, AWAY = 3", 3, 24);
+        whichIs(e, "blows 12 4, ticks 1, OFF = 1", 7, 24);
+        whichIs(e, "blows 22 33, ticks 3, OFF = 3, blows 33 4", 4, 25);
+        whichIs(e, TWISTED + ", blows 16 34, ticks 3, blows 31 2", 6, 15);
+        whichIs(e, TWISTED + ", blows 0 12, ticks 2, TWIST = 36, blows 27 0, ticks 3, UNWINDING = 1", 11, 13);
+        whichIs(e, SLOW + ", wants 0", 5, 12);
     }
 
     private static void sees(Edges e) {

@@ -8,6 +8,15 @@ final class EdgesOfCalls {
         + " ices 5, wants 0, blows 9 2, ticks 3, UNDOABLE = 6, LETTERS = 80, SEEN = 6, RECORDED = 40";
     static final String TRIPPED_AT_REST = "types 'r40;t41;', tells = 2, blows 20 4, ticks 40, MODE = TRIPPED, blows 0 4,"
         + " ticks 60, SPEED = 0, MODE = TRIPPED";
+    /** RESET does not wait for PITCH. */
+    static final String TRIPPED_PITCHING = "types 'r40;t41;i1;s1;', tells = 4, blows 3 0, ticks 60, ticks 40, blows 11 0, ticks 6,"
+        + " SPEED = 42, blows 0 0, ticks 41, MODE = TRIPPED, SPEED = 0, PITCH = 82";
+    static final String TRIPPED_JUST = "types 't101;', tells = 1, blows 22 5, ticks 37, MODE = TRIPPED, TORQUE = 39, PITCH = 6, HEADING = 3";
+    /** No GRID, and ICE. */
+    static final String WITHOUT_GRID = "blows 12 0, ticks 30, ices 2, ticks 9, grids 0, ticks 2, blows 14 3, MODE = SLOW, AWAY = 2";
+    /** All SETTINGS other than at first, too. */
+    static final String IN_STORM = "types 'r90;t111;i5;o31;l70;s4;', tells = 6, blows 12 5, ticks 40, blows 35 8, ticks 1, wants 0,"
+        + " MODE = SLOW, TORQUE != 0, TWIST = 3, STORM = 1, OFF = 1";
     /** TWIST and HEADING go up by 35, and one more tick makes it WOUND. */
     static final String NEXT_TO_LIMIT = "types 'l36;', tells = 1, blows 0 12, ticks 12, blows 0 24, ticks 12, blows 0 0,"
         + " ticks 11, blows 0 8, ticks 2, TWIST = 35, HEADING = 35, ERROR = 9";
@@ -16,7 +25,7 @@ final class EdgesOfCalls {
     static final String LONG = "ticks 60 x166, TICKS = 9960";
 
     private static final String LEAST = "-2147483648", GREATEST = "2147483647";
-    private static final String[] STATES = {FURNISHED, FULL_OF_ALL, TRIPPED_AT_REST, UNWINDING};
+    private static final String[] STATES = {FURNISHED, FULL_OF_ALL, TRIPPED_AT_REST, TRIPPED_JUST, IN_STORM, UNWINDING};
 
     private EdgesOfCalls() {
     }
@@ -149,9 +158,17 @@ final class EdgesOfCalls {
             .leavesAll("types 'r40;t41;', tells = 2, blows 20 0, ticks 40, MODE = TRIPPED, SPEED != 0", "resets = STATE")
             .leavesAll(UNWINDING, "resets = STATE");
         e.of("Terms", "RESET (TRIPPED, SPEED 0: STOPPED)")
+            // whatever PITCH is: it goes on to 90, by RATE
+            .run(TRIPPED_PITCHING + ", resets = 0, MODE = STOPPED, PITCH = 82, ticks 1, PITCH = 83, ticks 7, PITCH = 90, MODE = STOPPED")
             // nothing else is changed by it
             .run(TRIPPED_AT_REST + ", TRIPS = 1, PITCH = 90, resets = 2, MODE = STOPPED, TRIPS = 1, PITCH = 90, SPEED = 0,"
-                + " TICKS = 100, RECORDED = 40, HEADING = 2, TWIST = 2, WIND = 0, FROM = 4");
+                + " TICKS = 100, RECORDED = 40, HEADING = 2, TWIST = 2, WIND = 0, FROM = 4")
+            // what was counted goes on: GOOD of 3 or more starts it in the next TICK
+            .run("types 'r40;t41;', tells = 2, blows 20 0, ticks 60 x2, MODE = TRIPPED, SPEED = 0, GOOD = 120, resets = 0, GOOD = 120,"
+                + " ticks 1, MODE = STARTING")
+            .run("types 'r40;t41;', tells = 2, blows 20 0, ticks 40, blows 40 9, ices 2, wants 0, grids 0, ticks 60 x2, SPEED = 0,"
+                + " STORM = 120, AWAY = 120, OFF = 120, resets = 0, STORM = 120, AWAY = 120, OFF = 120, ICE = 2, WANTED = 0, GRID = 0,"
+                + " WIND = 40, FROM = 9, HEADING = 0, ticks 1, HEADING = 1");
     }
 
     private static void ticks(Edges e) {

@@ -1,5 +1,7 @@
 import java.util.ArrayList;
 import java.util.List;
+import java.util.Set;
+import java.util.TreeSet;
 
 /**
  * One run of calls on a new object, told in a short form: steps between commas, each a call with its numbers and, behind
@@ -17,6 +19,8 @@ final class Run {
     private static final String[] SETTING = {"RATED", "TRIP", "CUT-IN", "CUT-OUT", "LIMIT", "RATE"};
     private static final String[] COUNT = {"TICKS", "RECORDED", "TRIPS", "SEEN", "LETTERS", "UNDOABLE"};
     private static final String[] MODES = {"STOPPED", "STARTING", "SLOW", "FAST", "STOPPING", "TRIPPED"};
+
+    private static final Set<String> QUESTIONS = Set.of("now", "setting", "record", "count", "rain", "gust", "dip", "which", "ask");
 
     private final HeldBlades held = new HeldBlades();
     private final List<String> wrong = new ArrayList<>();
@@ -152,49 +156,73 @@ final class Run {
         }
     }
 
+    /** The questions that the pictures below are made of, of those that are asked in these steps. */
+    static Set<String> questions(String steps) {
+        Set<String> asked = new TreeSet<>();
+        for (String step : steps.split(",")) {
+            String name = step.trim().split(" ")[0];
+            asked.add(place(NOW, name) >= 0 ? "now" : place(SETTING, name) >= 0 ? "setting" : place(COUNT, name) >= 0 ? "count" : name);
+        }
+        asked.retainAll(QUESTIONS);
+        return asked;
+    }
+
     /** All of the document's part 2 that can be asked for, and what it would bear: nothing is changed by it. */
-    List<String> presentPicture() {
+    List<String> presentPicture(Set<String> skipped) {
         List<String> picture = new ArrayList<>();
-        look(picture, "now", 0, 17);
-        look(picture, "record", 0, 40);
-        look(picture, "count", 0, 2);
-        look(picture, "rain", 0, 4);
-        look(picture, "gust", 3, 3);
-        picture.add("dip " + ask("dip"));
+        look(picture, "", "now", 0, 17, skipped);
+        look(picture, "", "record", 0, 40, skipped);
+        look(picture, "", "count", 0, 2, skipped);
+        look(picture, "", "rain", 0, 4, skipped);
+        look(picture, "", "gust", 3, 3, skipped);
+        look(picture, "dip", skipped);
         return picture;
     }
 
-    /** Everything that an object can be seen by. What can be UNDONE, IMAGES and THE TEXT are used up by looking. */
-    List<String> wholePicture() {
-        List<String> picture = presentPicture();
-        look(picture, "setting", 0, 5);
-        look(picture, "count", 3, 5);
-        picture.add("which " + ask("which"));
-        picture.add("ask " + ask("ask"));
+    /**
+     * Everything that an object can be seen by, but for the questions that are skipped: one that changed something would
+     * change it in each picture that it stands in. What can be UNDONE, IMAGES and THE TEXT are used up by looking. Each
+     * line begins with what it is about, so that a test can leave it out.
+     */
+    List<String> wholePicture(Set<String> skipped) {
+        List<String> picture = presentPicture(skipped);
+        look(picture, "", "setting", 0, 5, skipped);
+        look(picture, "", "count", 3, 5, skipped);
+        look(picture, "which", skipped);
+        look(picture, "ask", skipped);
         for (int i = 0; i < 7; i++) {
-            picture.add("undo " + ask("undo"));
-            shortPicture(picture);
+            picture.add("undone " + i + ": " + ask("undo"));
+            shortPicture(picture, "undone " + i + " ", skipped);
         }
         for (int image = 0; image < 2; image++) {
-            look(picture, "back", image, image);
-            shortPicture(picture);
+            int ticks = ask("back " + image);
+            picture.add("image " + image + ": " + ticks);
+            if (ticks >= 0) {
+                shortPicture(picture, "image " + image + " ", skipped);
+            }
         }
-        picture.add("tells " + ask("tells"));
-        look(picture, "setting", 0, 5);
-        picture.add("clear " + ask("clear"));
+        picture.add("text: " + ask("tells"));
+        look(picture, "text ", "setting", 0, 5, skipped);
+        picture.add("text: " + ask("clear"));
         return picture;
     }
 
-    private void shortPicture(List<String> picture) {
-        look(picture, "now", 0, 15);
-        look(picture, "count", 0, 2);
-        look(picture, "record", 0, 1);
-        look(picture, "record", 39, 39);
+    private void shortPicture(List<String> picture, String about, Set<String> skipped) {
+        look(picture, about, "now", 0, 15, skipped);
+        look(picture, about, "count", 0, 2, skipped);
+        look(picture, about, "record", 0, 1, skipped);
+        look(picture, about, "record", 39, 39, skipped);
     }
 
-    private void look(List<String> picture, String call, int first, int last) {
-        for (int what = first; what <= last; what++) {
-            picture.add(call + " " + what + ": " + ask(call + " " + what));
+    private void look(List<String> picture, String about, String call, int first, int last, Set<String> skipped) {
+        for (int what = first; what <= last && !skipped.contains(call); what++) {
+            picture.add(about + call + " " + what + ": " + ask(call + " " + what));
+        }
+    }
+
+    private void look(List<String> picture, String call, Set<String> skipped) {
+        if (!skipped.contains(call)) {
+            picture.add(call + ": " + ask(call));
         }
     }
 }
