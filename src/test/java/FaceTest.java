@@ -40,9 +40,8 @@ public final class FaceTest {
         Set<String> methods = new TreeSet<>();
         for (Method m : c.getDeclaredMethods()) {
             if (Modifier.isPrivate(m.getModifiers())) {
-                for (String name : METHODS) {
-                    if (name.substring(0, name.length() - 1).equals(m.getName())) fault("private " + m.getName());
-                }
+                if (isNameOfCall(m.getName())) fault("private " + m.getName());
+                if (m.getParameterCount() > 7) fault("too many parameters: " + m);
                 continue;
             }
             if (m.getModifiers() != Modifier.PUBLIC || m.getReturnType() != int.class) fault("not a public int: " + m);
@@ -69,7 +68,22 @@ public final class FaceTest {
         for (Class<?> inside : c.getDeclaredClasses()) {
             if (!Modifier.isStatic(inside.getModifiers())) fault("not static: " + inside);
             if (inside.getDeclaredFields().length > 20) fault("too many fields: " + inside);
+            inside(inside);
         }
+    }
+
+    private static void inside(Class<?> inside) {
+        for (Method m : inside.getDeclaredMethods()) {
+            if (isNameOfCall(m.getName())) fault("bears the name of a call: " + m);
+            if (m.getParameterCount() > 7) fault("too many parameters: " + m);
+        }
+    }
+
+    private static boolean isNameOfCall(String name) {
+        for (String call : METHODS) {
+            if (call.substring(0, call.length() - 1).equals(name)) return true;
+        }
+        return false;
     }
 
     private static void source() throws IOException {
@@ -80,8 +94,24 @@ public final class FaceTest {
         for (String word : forbidden) {
             if (code.matches("(?s).*\\b" + word + (word.endsWith(")") ? ".*" : "\\b.*"))) fault("the source has " + word);
         }
+        methodsAreShort(text.split("\n"));
         for (String sign : new String[] {"->", "::", "Exact(", "static {"}) {
             if (code.contains(sign)) fault("the source has " + sign);
+        }
+    }
+
+    /** A method's body begins behind 4 or 8 blanks, and ends at a brace behind as many. */
+    private static void methodsAreShort(String[] lines) {
+        int begun = -1;
+        String indent = "";
+        for (int i = 0; i < lines.length; i++) {
+            if (begun < 0 && lines[i].matches(" {4}( {4})?(public|private) [^=;]*\\) \\{")) {
+                begun = i;
+                indent = lines[i].substring(0, lines[i].indexOf('p'));
+            } else if (begun >= 0 && lines[i].equals(indent + "}")) {
+                if (i - begun > 60) fault("too long: " + lines[begun].trim());
+                begun = -1;
+            }
         }
     }
 
